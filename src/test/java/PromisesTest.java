@@ -83,7 +83,23 @@ public final class PromisesTest {
             type 0 1 1 -> state            # the refused rules are not there, the last one is
             wrap 0 0 3 4 -> 5
             """);
+        Script.run("2 rule: a refused rule leaves the former one", """
+            rule 0 1 64 2 -> -
+            rule 0 1 2 0 -> state
+            type 0 2 0 -> 3
+            type 0 2 1 -> 4
+            takeBack 0 -> 1
+            takeBack 0 -> 0
+            rule 0 0 0 0 -> state
+            split 0 1 -> 1
+            """);
         Script.run("2 rule: no step is pending or confirmed", """
+            type 0 1 0 -> 3
+            rule 1 0 64 1 -> state
+            takeBack 0 -> 0
+            type 1 1 0 -> 3
+            rule 1 0 64 1 -> state
+            takeBack 1 -> 0
             type 2 1 0 -> 3
             rule 1 0 64 1 -> state
             rule 1 3 64 1 -> argument
@@ -198,6 +214,14 @@ public final class PromisesTest {
             setType 0 0 3 -> state
             mark 0 0 60 1 true -> 22
             size 0 -> 60
+            erase 0 1 2 -> 59
+            type 0 1 5 -> 60
+            join 0 6 -> 1
+            size 0 -> 58
+            wrap 0 0 58 4 -> 60
+            setType 0 0 5 -> 4
+            unwrap 0 0 -> 5
+            size 0 -> 58
             """);
     }
 
@@ -520,6 +544,16 @@ public final class PromisesTest {
             paste 0 6 -> 3
             doc 0 -> 1 0 2 5 116 0 5 116 0 0
             """);
+        Script.run("12 paste: an empty node within another one", """
+            rule 0 0 50 2 -> -             # 1, 4 and 5
+            rule 4 0 32 2 -> -
+            rule 5 0 2 2 -> -
+            copy 0 0 2 -> 2
+            wrap 0 0 2 5 -> 4
+            wrap 0 0 4 4 -> 6
+            paste 0 1 -> 4
+            doc 0 -> 4 5 1 0 0 5 1 0 0 0
+            """);
         Script.run("12 paste: 10 pending", """
             copy 0 0 2 -> 2
             paste 0 0 -> 2
@@ -563,15 +597,17 @@ public final class PromisesTest {
             send 0 -> 2
             receive 1 -> 2
             receive 2 -> 2
-            erase 1 1 3 -> 2
-            send 1 -> 1
+            type 1 3 6 -> 5
+            erase 1 1 3 -> 3
+            send 1 -> 2
             type 2 2 9 -> 5
             type 2 1 8 -> 6
-            receive 2 -> 1
-            version 2 -> 301
+            receive 2 -> 2
+            doc 2 -> 1 132 124 0
+            version 2 -> 401
             lost 2 -> 1
             takeBack 2 -> 0
-            doc 2 -> 1 0
+            doc 2 -> 1 124 0
             lost 2 -> 1
             """);
     }
@@ -641,6 +677,26 @@ public final class PromisesTest {
             split 0 4 -> 4
             doc 0 -> 4 1 100 0 0 4 1 108 104 0 0
             revert 0 5 -> state            # the two tokens in between would be left
+            """);
+        Script.run("14 revert: two ranges", """
+            wrap 0 0 2 5 -> 4
+            unwrap 0 0 -> 5
+            send 0 -> 2
+            type 0 1 7 -> 3
+            revert 0 1 -> 5
+            doc 0 -> 5 1 128 0 0
+            """);
+        Script.run("14 revert: through what the client has, no more", """
+            type 0 1 0 -> 3
+            send 0 -> 1
+            receive 1 -> 1
+            type 0 1 1 -> 4
+            send 0 -> 1
+            revert 1 1 -> index
+            revert 1 0 -> 2
+            doc 1 -> 1 0
+            receive 1 -> 1
+            doc 1 -> 1 104 0
             """);
         Script.run("14 revert: through pending steps, without partners", """
             type 0 1 0 -> 3
@@ -817,6 +873,41 @@ public final class PromisesTest {
             doc 1 -> 1 100 128 104 0
             lost 1 -> 0
             version 1 -> 403
+            """);
+        Script.run("16 receive: two ranges at one position", """
+            rule 0 0 126 2 -> -
+            rule 2 0 64 2 -> -
+            type 0 2 0 -> 3
+            send 0 -> 1
+            receive 1 -> 1
+            wrap 1 2 3 2 -> 5
+            type 1 5 9 -> 6
+            doc 1 -> 1 0 2 100 0 136
+            erase 0 2 3 -> 2
+            send 0 -> 1
+            receive 1 -> 1
+            # Behind the wrapped node its start comes to 3, at the first of two ranges at 2, and its
+            # end comes to 4 by the partner; so it takes the token that closes the node.
+            doc 1 -> 1 0 2 0
+            version 1 -> 201
+            lost 1 -> 1
+            """);
+        Script.run("16 receive: the second range ahead of the end of the first one", """
+            rule 0 0 126 2 -> -
+            rule 2 0 64 2 -> -
+            type 0 2 0 -> 3
+            type 0 3 1 -> 4
+            send 0 -> 2
+            receive 1 -> 2
+            wrap 1 2 3 2 -> 6
+            wrap 1 5 6 2 -> 8
+            doc 1 -> 1 0 2 100 0 2 104 0
+            erase 0 2 3 -> 3
+            erase 0 2 3 -> 2
+            send 0 -> 2
+            receive 1 -> 2
+            doc 1 -> 1 0 2 0
+            lost 1 -> 1
             """);
         Script.run("16 receive: the partner is lost with its step", """
             type 0 1 0 -> 3
