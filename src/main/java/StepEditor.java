@@ -806,7 +806,8 @@ public final class StepEditor {
                 boolean isPassed = (reached >> (2 * e + 1) & 1) != 0;
                 if (isAhead && index >= 0 && index < kinds.length && index < quantities.length) {
                     int quantity = quantities[index];
-                    isPassed |= kinds[index] == 0 || quantity == AT_MOST_ONE || quantity == ANY_NUMBER;
+                    boolean mayBeNone = quantity == AT_MOST_ONE || quantity == ANY_NUMBER;
+                    isPassed = isPassed || kinds[index] == 0 || mayBeNone;
                 }
                 if (isPassed) {
                     reached |= 1 << (2 * e + 2);
@@ -849,8 +850,13 @@ public final class StepEditor {
             isBetween = !isAtStart && !isAtEnd;
             // Between the edges, or at the edge that its side looks away from, a partner finds it again.
             isHeld = isRight ? !isAtEnd : !isAtStart;
-            boolean goesToEnd = isAtStart == isAtEnd ? isRight : isAtEnd;
-            position = goesToEnd ? putEnd : putStart;
+            if (isAtStart && !isAtEnd) {
+                position = putStart;
+            } else if (isAtEnd && !isAtStart) {
+                position = putEnd;
+            } else {
+                position = isRight ? putEnd : putStart;
+            }
         }
     }
 
@@ -1091,19 +1097,22 @@ public final class StepEditor {
         /** Maps a position; whether it was lost is told by the place afterwards. */
         private int carryPosition(int position, boolean isRight, int first) {
             place.begin(position, isRight);
-            for (int i = Math.max(first, 0); i < count && i < MAX_MAPS; i++) {
+            int i = Math.max(first, 0);
+            for (int maps = 0; maps < MAX_MAPS && i < count && i < MAX_MAPS; maps++) {
+                int next = i + 1;
                 Step step = steps[i];
                 if (step != null) {
                     step.carry(place, areInverse[i]);
                     int partner = partners[i];
-                    Step again = partner > i && partner < MAX_MAPS ? steps[partner] : null;
+                    Step again = partner >= 0 && partner < MAX_MAPS ? steps[partner] : null;
                     if (place.isHeld && again != null) {
                         place.position = again.putStart(place.range) + place.offset;
-                        i = partner;
-                    } else {
-                        place.isLost |= place.isBetween;
+                        next = partner + 1;
+                    } else if (place.isBetween) {
+                        place.isLost = true;
                     }
                 }
+                i = next;
             }
             return place.position;
         }

@@ -874,41 +874,6 @@ public final class PromisesTest {
             lost 1 -> 0
             version 1 -> 403
             """);
-        Script.run("16 receive: two ranges at one position", """
-            rule 0 0 126 2 -> -
-            rule 2 0 64 2 -> -
-            type 0 2 0 -> 3
-            send 0 -> 1
-            receive 1 -> 1
-            wrap 1 2 3 2 -> 5
-            type 1 5 9 -> 6
-            doc 1 -> 1 0 2 100 0 136
-            erase 0 2 3 -> 2
-            send 0 -> 1
-            receive 1 -> 1
-            # Behind the wrapped node its start comes to 3, at the first of two ranges at 2, and its
-            # end comes to 4 by the partner; so it takes the token that closes the node.
-            doc 1 -> 1 0 2 0
-            version 1 -> 201
-            lost 1 -> 1
-            """);
-        Script.run("16 receive: the second range ahead of the end of the first one", """
-            rule 0 0 126 2 -> -
-            rule 2 0 64 2 -> -
-            type 0 2 0 -> 3
-            type 0 3 1 -> 4
-            send 0 -> 2
-            receive 1 -> 2
-            wrap 1 2 3 2 -> 6
-            wrap 1 5 6 2 -> 8
-            doc 1 -> 1 0 2 100 0 2 104 0
-            erase 0 2 3 -> 3
-            erase 0 2 3 -> 2
-            send 0 -> 2
-            receive 1 -> 2
-            doc 1 -> 1 0 2 0
-            lost 1 -> 1
-            """);
         Script.run("16 receive: the partner is lost with its step", """
             type 0 1 0 -> 3
             type 0 2 1 -> 4
