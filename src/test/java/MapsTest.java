@@ -10,6 +10,7 @@ public final class MapsTest {
     public static void main(String[] args) {
         aheadAndBehind();
         edgesOfRanges();
+        rangesThatPutSomething();
         emptyRanges();
         twoRanges();
         markings();
@@ -132,6 +133,57 @@ public final class MapsTest {
             receive 2
             lost 2 -> 0
             doc 2 -> 1 100 104 132 128 116 120 0
+            """);
+    }
+
+    /**
+     * Receiving makes a step of client 2 here that takes three tokens and puts one. Two clients
+     * unwrap the same paragraph. What was typed behind it, and then in it, comes to one place, in
+     * the order of the typing; so what was typed between both at last begins where the one begins
+     * and ends where the other one ends.
+     */
+    private static final String THREE_FOR_ONE = """
+        rule 0 0 126 2
+        type 0 2 25
+        send 0
+        receive 1
+        receive 2
+        unwrap 1 0
+        send 1
+        type 2 2 23
+        type 2 1 24
+        unwrap 2 0
+        type 2 0 0
+        type 2 2 1
+        doc 2 -> 100 196 104 192 200
+        """;
+
+    private static void rangesThatPutSomething() {
+        Script.run("between both it becomes the beginning of what is put with the side left", THREE_FOR_ONE
+            + """
+            mark 2 2 4 0 true
+            receive 2
+            doc 2 -> 104 200               # both positions are at 0
+            lost 2 -> 1
+            version 2 -> 205
+            """);
+        Script.run("and the end of that with the side right", THREE_FOR_ONE + """
+            mark 2 1 5 0 true
+            receive 2
+            doc 2 -> 104 201               # from 1 to 2
+            lost 2 -> 0
+            """);
+        Script.run("it is lost if it is between both: in a range that puts something", THREE_FOR_ONE + """
+            type 2 1 9
+            receive 2
+            doc 2 -> 104 200
+            lost 2 -> 1
+            """);
+        Script.run("it takes what is there then: three tokens instead of none", THREE_FOR_ONE + """
+            receive 2
+            lost 2 -> 0
+            takeBack 2
+            doc 2 -> 192 100 196 200
             """);
     }
 
@@ -620,6 +672,26 @@ public final class MapsTest {
             doc 1 -> 1 0 2 0
             lost 1 -> 1
             """);
+        Script.run("Its pending steps are mapped: also if nothing has come", """
+            rule 0 0 126 2
+            rule 2 0 64 2
+            type 0 2 0
+            send 0
+            receive 1
+            wrap 1 2 3 2
+            erase 0 2 3
+            send 0
+            receive 1 -> 1
+            type 1 4 9
+            doc 1 -> 1 0 2 0 136
+            # Both ranges of the wrapping are at 2 now. The start of the typing comes to the end of
+            # what the first one puts, its end to the end of what the second one puts, and the token
+            # that closes the node, which is between both, is not to be taken.
+            receive 1 -> 0
+            doc 1 -> 1 0 2 0
+            lost 1 -> 1
+            version 1 -> 201
+            """);
     }
 
     private static void partnersAmongOthers() {
@@ -742,6 +814,13 @@ public final class MapsTest {
             send 0
             receive 1
             doc 1 -> 1 136 104 132 108 128 112 0
+            """);
+        Script.run("the confirmed steps that it receives: the very first one", """
+            type 1 1 9
+            type 0 1 8
+            send 0
+            receive 1
+            doc 1 -> 1 132 136 0
             """);
         Script.run("just the confirmed steps that it receives", SetUp.FOUR_LETTERS + """
             type 0 1 9
