@@ -692,6 +692,32 @@ public final class MapsTest {
             lost 1 -> 1
             version 1 -> 201
             """);
+        Script.run("Its pending steps are mapped: if nothing has come, behind an empty node that came back", """
+            split 0 1
+            unwrap 0 2
+            send 0
+            revert 0 1 -> 4                # it puts 1 and 0, both at 2
+            copy 0 0 2
+            paste 0 4 -> 2
+            # The start of the pasting comes to 3, its end stays at 4, as in the run above.
+            receive 0 -> 0
+            doc 0 -> 1 0 1 0
+            lost 0 -> 1
+            version 0 -> 201
+            """);
+        Script.run("Its pending steps are mapped: if nothing has come, ahead of such a node nothing changes", """
+            split 0 1
+            unwrap 0 2
+            send 0
+            revert 0 1 -> 4
+            copy 0 0 2
+            paste 0 2 -> 2
+            type 0 1 3
+            receive 0 -> 0
+            doc 0 -> 1 112 0 1 0 1 0
+            lost 0 -> 0
+            version 0 -> 203
+            """);
     }
 
     private static void partnersAmongOthers() {
